@@ -20,7 +20,19 @@ public final class ModelTest {
     };
     private static final String[] CHANGES = {
         "make q q", "square q s", "product m m", "product m m", "inverse m", "inverse m", "power m e", "drop m",
-        "tell x x x", "moves m", "moves m", "undo", "undo", "symmetry q o", "symmetry q o",
+        "drop m", "drop m", "drop m", "drop m", "tell x x x", "moves m", "moves m", "undo", "undo", "symmetry q o",
+        "symmetry q o",
+    };
+
+    private static final String[] ROW_CALLS = {
+        "share p p p p h", "share p p p p h", "fourth p p p t", "meet p p p p t", "inLine p p p", "turnOf p p p",
+        "gap p p h", "middle p p t", "join p p t",
+    };
+    private static final String[] GREAT_CALLS = {
+        "make q q", "make q q", "product m m", "inverse m", "drop m", "power m e", "before m x x x t",
+        "line m x x x t", "pull m x x x t", "vanishing m t", "turn m", "order m", "commute m m", "undoes m m",
+        "generated l", "word m k", "keepsLine m x x x", "farthest m", "cut m p p", "shapeBy m q", "parallel m q",
+        "partner m", "size m", "biggest h", "pairs t", "spell m i", "cornerBy m q k t", "whole m w",
     };
 
     private final Check check = new Check();
@@ -36,12 +48,14 @@ public final class ModelTest {
     }
 
     public static void main(String[] args) throws Exception {
-        int runs = args.length > 0 ? Integer.parseInt(args[0]) : 150;
+        int runs = args.length > 0 ? Integer.parseInt(args[0]) : 100;
         int first = args.length > 1 ? Integer.parseInt(args[1]) : 0;
         ModelTest test = new ModelTest(first + 1);
         for (int i = 0; i < runs; i++) {
             test.oneRun(i);
             test.textRun(i);
+            test.callsOn("row " + i, test.texts.row(), ROW_CALLS);
+            test.callsOn("great " + i, test.texts.great(), GREAT_CALLS);
         }
         test.check.end();
     }
@@ -76,6 +90,14 @@ public final class ModelTest {
         read(texts.any());
         for (int c = 0; c < 480; c++) {
             one(dice.oneIn(5) ? dice.of(CHANGES) : dice.of(CALLS));
+        }
+    }
+
+    private void callsOn(String name, String text, String[] calls) throws Exception {
+        begin(name);
+        read(text);
+        for (int c = 0; c < 150; c++) {
+            one(dice.of(calls));
         }
     }
 

@@ -24,9 +24,11 @@ final class Texts {
                 .append(blank()).append((char) ('a' + dice.below(quads))).append(";");
         }
         int points = dice.from(0, 7);
+        int[][] told = new int[points][];
         for (int p = 0; p < points; p++) {
+            told[p] = p > 1 && dice.oneIn(2) ? inLineWith(told[p - 1], told[dice.below(p - 1)]) : point();
             text.append("point");
-            for (int n : point()) {
+            for (int n : told[p]) {
                 text.append(blank()).append(number(n));
             }
             text.append(";");
@@ -49,6 +51,45 @@ final class Texts {
             p[dice.below(3)] = 1;
         }
         return p;
+    }
+
+    /** Points of one line, some of them alike. */
+    String row() {
+        int[] p = point();
+        int[] q = point();
+        StringBuilder text = new StringBuilder();
+        for (int i = 0; i < 8; i++) {
+            int[] r = i == 0 || dice.oneIn(12) ? p : inLineWith(p, q);
+            text.append("point ").append(r[0]).append(' ').append(r[1]).append(' ').append(r[2]).append(';');
+        }
+        return text.toString();
+    }
+
+    /** Maps of great numbers. */
+    String great() {
+        StringBuilder text = new StringBuilder();
+        for (int q = 0; q < 4; q++) {
+            int[] c = quad(null);
+            text.append("quad ").append((char) ('a' + q));
+            for (int n : c) {
+                text.append(' ').append(n);
+            }
+            text.append(';');
+        }
+        return text + "point 1 2 3;point 9999 -9998 1;";
+    }
+
+    private int[] inLineWith(int[] p, int[] q) {
+        int timesP = dice.from(-2, 2);
+        int timesQ = dice.from(1, 3);
+        int[] out = new int[3];
+        for (int i = 0; i < 3; i++) {
+            out[i] = timesP * p[i] + timesQ * q[i];
+            if (out[i] < -9999 || out[i] > 9999) {
+                return q;
+            }
+        }
+        return out[0] == 0 && out[1] == 0 && out[2] == 0 ? p : out;
     }
 
     /** A quad without three corners in line: one like another, or any. */
