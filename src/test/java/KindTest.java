@@ -58,6 +58,13 @@ public final class KindTest {
         CHECK.due("trapezium", x.turn(7), 1);
         CHECK.due("no map", x.turn(8), 0);
         CHECK.due("map -1", x.turn(-1), 0);
+        // x, y to 2/x, y/x; to y/x, 1/x; and back.
+        CornerMaps z = Script.of("quad a 1 0 2 0 2 2 1 1;quad b 2 0 1 0 1 1 2 1;quad c 1 0 1 2 -1 0 -1 1;"
+            + "quad d 0 1 2 1 0 -1 -1 -1;map f a b;map g c d;map h d c;");
+        CHECK.due("of the last numbers of rows", z.turn(0), -1);
+        CHECK.due("all around", z.turn(1), 1);
+        CHECK.due("and back", z.turn(2), 1);
+        CHECK.due("its order", z.order(1), 3);
         CornerMaps y = Script.of("quad a 0 0 1 0 1 1 0 1;quad b 0 0 10 0 10 10 0 10;quad c 0 0 0 1 1 1 1 0;"
             + "map t a b;map m a c;");
         y.power(0, 6);

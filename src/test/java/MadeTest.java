@@ -152,12 +152,40 @@ public final class MadeTest {
         CHECK.due("no such ahead", x.make(9, 0), -1);
         CHECK.due("sixteen", x.count(2), 16);
         CHECK.due("eleven to undo", x.count(5), 11);
+        fullOfAll(x);
         CornerMaps y = Script.of(GREAT + "quad c 0 0 1 0 1 1 0 1;");
         for (int m = 0; m < 16; m++) {
             y.make(2, 2);
         }
         CHECK.due("LARGE ahead of full", y.make(0, 1), -2);
         CHECK.due("full", y.make(2, 2), -3);
+    }
+
+    /** All that goes through all maps, quads and points, with no place left free. */
+    private static void fullOfAll(CornerMaps x) {
+        for (int p = 0; p < 8; p++) {
+            CHECK.due("point " + p, x.tell(p, 1, 1), p);
+        }
+        CHECK.due("finite", x.count(4), 8);
+        CHECK.due("farthest", x.farthest(Plain.M_TWICE), 14);
+        CHECK.due("stay", x.points(15, 0), 8);
+        CHECK.due("moves", x.moves(Plain.M_SHIFT), 0);
+        CHECK.due("leads", x.leads(0, 7, 1), -2);
+        CHECK.due("find", x.find(Plain.TRAP, Plain.ONE), -2);
+        CHECK.due("partner", x.partner(Plain.M_TRAP), -2);
+        CHECK.due("kept", x.kept(Plain.M_TRAP), 255);
+        CHECK.due("goes to", x.goesTo(Plain.M_TRAP, Plain.TRAP), 0);
+        CHECK.due("pairs", x.pairs(2), 55);
+        CHECK.due("unlike", x.generated(1), 6);
+        CHECK.due("biggest", x.biggest(0), Plain.M_TRAP);
+        CHECK.due("kinds", x.kinds(0), 11);
+        CHECK.due("no word", x.word(Plain.M_TRAP, -1), -2);
+        CHECK.due("word", x.word(5, -1), 1);
+        CHECK.due("drop", x.drop(0), 15);
+        CHECK.due("back", x.undo(), 15);
+        CHECK.due("all there", x.count(2), 16);
+        nine("the first", x, 0, 4, 2, 0, 0, 4, 0, 0, 1, 1);
+        nine("the last", x, 15, 1, 0, 0, 0, 1, 0, 0, 0, 1);
     }
 
     private static void drop() {
@@ -238,7 +266,7 @@ public final class MadeTest {
 
     private static void undo() {
         CornerMaps x = Plain.with("point 1 1 1;");
-        x.make(0, 1);
+        x.make(1, 0);
         x.tell(5, 5, 5);
         x.moves(Plain.M_TWICE);
         x.drop(0);
@@ -247,6 +275,7 @@ public final class MadeTest {
         CHECK.due("six", x.count(5), 6);
         CHECK.due("the symmetry", x.undo(), 5);
         CHECK.due("maps", x.count(2), 5);
+        nine("the last one made", x, 4, 2, -1, 0, 0, 2, 0, 0, -2, 8);
         CHECK.three("moved twice", what -> x.point(0, what), 4, 4, 1);
         CHECK.due("moved", x.undo(), 4);
         CHECK.three("moved once", what -> x.point(1, what), 2, 2, 1);

@@ -243,6 +243,8 @@ public final class PointsTest {
         CHECK.due("by 2", x.gap(2, 0, 1), 2);
         CHECK.due("0", x.gap(4, 4, 0), 0);
         CHECK.due("by 1", x.gap(4, 4, 1), 1);
+        CHECK.due("37", x.gap(1, 2, 0), 37);
+        CHECK.due("by 2", x.gap(1, 2, 1), 2);
         CHECK.due("great", x.gap(5, 6, 0), 19998L * 19998 + 19997L * 19997);
         CHECK.due("not finite", x.gap(3, 0, 0), -2);
         CHECK.due("not finite", x.gap(0, 3, 1), -2);

@@ -23,6 +23,11 @@ public final class QuadTest {
     private static void inside() {
         CornerMaps x = Plain.with("point 1 1 2;point 1 0 1;point 1 1 1;point 2 2 1;point 1 0 0;point 1 2 2;point 3 1 2;"
             + "point 1 5 2;");
+        CornerMaps sides = Plain.with("point 1 0 2;point 2 1 2;point 1 2 2;point 0 1 2;point 0 0 1;point 0 3 2;");
+        int[] onSides = {2, 2, 2, 2, 2, 0};
+        for (int p = 0; p < 6; p++) {
+            CHECK.due("side " + p, sides.inside(Plain.ONE, p), onSides[p]);
+        }
         int[] one = {1, 2, 2, 0, -2, 2, 0, 0};
         int[] dart = {1, 2, 2, 0, -2, 1, 1, 2};
         for (int p = 0; p < 8; p++) {
@@ -59,6 +64,15 @@ public final class QuadTest {
         CHECK.due("in parallel", x.crossings(0, 6), 0);
         CHECK.due("in one line, overlapping", x.crossings(0, 7), 3);
         CHECK.due("the other way around", x.crossings(7, 0), 3);
+        CornerMaps y = Script.of("quad a 0 0 0 5 -1 5 -1 0;quad b 0 3 0 8 1 8 1 3;quad c 0 8 0 6 1 6 1 8;"
+            + "quad d 5 5 7 7 8 6 6 4;quad e 6 6 1 1 2 0 7 5;quad f 8 8 9 9 10 8 9 7;quad g 0 0 2 2 1 5 -3 6;"
+            + "quad h 3 3 1 0 9 -9 9 -8;");
+        CHECK.due("upright, overlapping", y.crossings(0, 1), 3);
+        CHECK.due("upright, the other way around", y.crossings(1, 0), 3);
+        CHECK.due("upright, apart", y.crossings(0, 2), 0);
+        CHECK.due("slanting, overlapping", y.crossings(3, 4), 6);
+        CHECK.due("slanting, apart", y.crossings(3, 5), 0);
+        CHECK.due("an end on a side drawn out", y.crossings(6, 7), 0);
         CHECK.due("no first", x.crossings(8, 0), -1);
         CHECK.due("no second", x.crossings(0, 8), -1);
         CHECK.due("below", x.crossings(-1, 0), -1);
@@ -92,6 +106,10 @@ public final class QuadTest {
         CHECK.due("no quad", x.parallel(0, 8), -1);
         CHECK.due("below", x.parallel(-1, 0), -1);
         CHECK.due("below, too", x.parallel(0, -1), -1);
+        // Around 0 -1, where the diagonals meet on the horizon: those aren't asked for.
+        CornerMaps z = Script.of(Plain.QUADS.replace("quad skew 0 0 1 0 2 1 1 1;", "quad low -1 -2 1 -2 1 0 -1 0;")
+            + "map trap one trap;");
+        CHECK.due("not the diagonals", z.parallel(0, Plain.SKEW), 1);
         // One more whose sides 1 2 and 3 0 alone come parallel.
         CornerMaps y = Script.of("quad a 0 0 3 2 1 2 0 1;quad b 0 0 1 0 3 5 0 2;quad c 0 0 0 2 2 2 3 0;map n b b;map m a c;");
         CHECK.due("second pair", y.parallel(0, 2), 2);
@@ -217,6 +235,7 @@ public final class QuadTest {
         CHECK.due("none", x.goesTo(Plain.M_TWICE, Plain.TWO), 0);
         x.power(0, 0);
         CHECK.due("itself and another", x.goesTo(5, Plain.BOW), 2);
+        CHECK.due("itself, the first", x.goesTo(5, Plain.ONE), 1);
         CHECK.due("no map", x.goesTo(6, 0), -1);
         CHECK.due("no quad", x.goesTo(0, 8), -1);
         CHECK.due("below", x.goesTo(-1, 0), -1);
@@ -233,6 +252,9 @@ public final class QuadTest {
         CornerMaps y = Script.of("quad a 0 0 1 0 1 1 0 1;quad b 0 -1 1 0 1 1 0 1;quad c 0 0 4 0 3 2 1 2;"
             + "quad d 0 0 1 0 1 1 2 -1;map m a c;");
         CHECK.due("corners on the horizon", y.kept(0), 1 | 4);
+        CHECK.due("no quads but the first", Script.of("quad a 0 0 1 0 1 1 0 1;quad b 0 0 4 0 3 2 1 2;map m b a;").kept(0), 3);
+        CHECK.due("not the first", Script.of("quad b 0 4 1 0 1 1 0 1;quad a 0 0 1 0 1 1 0 1;quad c 0 0 4 0 3 2 1 2;"
+            + "map m c a;").kept(0), 6);
     }
 
     private static void find() {

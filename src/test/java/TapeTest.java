@@ -103,6 +103,15 @@ public final class TapeTest {
         CHECK.due("tape stays", x.count(6), 20);
         CHECK.due("fault stays", x.fault(0), 1);
         CHECK.due("quad stays", x.count(1), 1);
+        CHECK.due("the first 10", x.text(10), -1);
+        CHECK.due("no more is read", x.fault(1), 10);
+        Script.feed(x, "point 1 2 35;       ");
+        CHECK.due("a number cut", x.text(11), -1);
+        CHECK.due("its place", x.fault(1), 11);
+        Script.feed(x, "quadrat             ");
+        CHECK.due("a word cut", x.text(4), -1);
+        CHECK.due("its place", x.fault(1), 4);
+        Script.feed(x, "point 1 2 3;        ");
         CHECK.due("the first 12", x.text(12), 1);
         CHECK.due("no fault", x.fault(0), 0);
         CHECK.due("no place", x.fault(1), -1);
@@ -172,6 +181,14 @@ public final class TapeTest {
         fault("quad 0 0 1 0 1 1 0 1;", 1, 5);
         fault("quad abcdefg 0 0 1 0 1 1 0 1;", 1, 5);
         fault("quad\r", 1, 4);
+        fault("quad ;", 1, 5);
+        fault("point 1 2 3 a", 1, 12);
+        fault("point 1 2 3 -", 1, 12);
+        fault(SQUARE + "map f;", 1, 28);
+        fault(SQUARE + "map f a;", 1, 30);
+        fault(SQUARE + "map f a a a;", 1, 33);
+        fault(SQUARE + "map ;", 1, 27);
+        fault(SQUARE + "map f 1 a;", 1, 29);
         CHECK.due("six letters", Script.read(new CornerMaps(), "quad abcdef 0 0 1 0 1 1 0 1;"), 1);
     }
 
@@ -246,6 +263,8 @@ public final class TapeTest {
         fault("quad a 0 0 0 0 1 1 0 1;", 4, 22);
         fault("quad a 0 1 1 0 1 1 2 1;", 4, 22);
         fault("quad a 0 0 0 1 3 3 0 2;", 4, 22);
+        fault("quad a 0 1 1 0 2 0 3 0;", 4, 22);
+        fault("quad a 1 0 0 1 2 0 3 0;", 4, 22);
         fault("point 0 0 0;", 4, 11);
         fault("point 0 -0 0 ;", 4, 13);
         String great = "quad a -20 -19 20 -17 19 18 -17 20;quad b 7 20 -20 -13 19 -20 11 13;";

@@ -41,13 +41,12 @@ public final class ThingsTest {
         CHECK.noElement("row -1", () -> x.map(0, -1, 0));
         CHECK.noElement("place 3", () -> x.map(0, 0, 3));
         CHECK.noElement("place -1", () -> x.map(0, 2, -1));
-        // The last number is 0 here, so the one ahead of it is made to be above 0.
-        CornerMaps y = Script.of("quad a 0 0 1 0 1 1 0 1;quad b 1 1 2 -1 -1 2 1 -3;map f a b;");
-        int last = 0;
+        // x, y to 2/x, y/x: the last two numbers are 0, so the one ahead of them is above 0.
+        CornerMaps y = Script.of("quad a 1 0 2 0 2 2 1 1;quad b 2 0 1 0 1 1 2 1;map f a b;");
+        int[] swap = {0, 0, 2, 0, 1, 0, 1, 0, 0};
         for (int i = 0; i < 9; i++) {
-            last = y.map(0, i / 3, i % 3) == 0 ? last : y.map(0, i / 3, i % 3);
+            CHECK.due("swap " + i, y.map(0, i / 3, i % 3), swap[i]);
         }
-        CHECK.due("the last one that isn't 0 is above 0", last > 0 ? 1 : 0, 1);
     }
 
     private static void points(CornerMaps x) {
@@ -84,6 +83,9 @@ public final class ThingsTest {
         CHECK.due("dent at 1", y.dent(1), 1);
         CHECK.due("dent at 2", y.dent(2), 2);
         CHECK.due("dent at 3", y.dent(3), 3);
+        CornerMaps small = Script.of("quad a 0 0 2 1 1 1 1 2;quad b 0 0 1 2 1 1 2 1;");
+        CHECK.due("the least turns", small.dent(0), 2);
+        CHECK.due("the least turns, clockwise", small.dent(1), 2);
         CHECK.due("counterclockwise", y.area(4), 3200);
         CHECK.due("clockwise", y.area(5), -3200);
         CHECK.due("crossed", y.shape(6), 2);

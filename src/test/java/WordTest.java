@@ -68,6 +68,13 @@ public final class WordTest {
         x.product(6, Plain.M_TURN);
         x.drop(6);
         row("three", x, 6, Plain.M_TRAP, Plain.M_SHIFT, Plain.M_TURN);
+        CornerMaps v = Plain.with("");
+        v.product(Plain.M_SHIFT, Plain.M_TURN);
+        v.product(5, Plain.M_TRAP);
+        v.drop(5);
+        row("the first one last", v, 5, Plain.M_SHIFT, Plain.M_TURN, Plain.M_TRAP);
+        CornerMaps w = Script.of("quad a 0 0 1 0 1 1 0 1;quad b 0 0 2 0 2 1 0 1;quad c 0 0 5 0 5 1 0 1;map b a b;map c a c;");
+        none("8 isn't 5", w, 1);
         CornerMaps y = Script.of("quad a 0 0 1 0 1 1 0 1;quad b 1 0 2 0 2 1 1 1;map s a b;");
         y.power(0, 4);
         none("a fourth power", y, 1);
