@@ -1656,7 +1656,7 @@ public final class CornerMaps {
                 for (int i = mapCount; i > m; i--) {
                     Rows.copy(maps[i - 1], maps[i]);
                 }
-                System.arraycopy(map, 0, maps[m], 0, 9);
+                Rows.copy(map, maps[m]);
                 mapCount++;
             }
         }
