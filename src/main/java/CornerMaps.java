@@ -473,8 +473,8 @@ public final class CornerMaps {
         if (!arePoints(p, q, r, s) || !isPart(part)) {
             return NO;
         }
-        if (hasThreeAlike(p, q, r, s) || !areInLine(p, q, r) || !areInLine(p, q, s)
-            || !areInLine(p, r, s) || !areInLine(q, r, s)) {
+        // The third of these is for p and q alike, which are in line with all.
+        if (hasThreeAlike(p, q, r, s) || !areInLine(p, q, r) || !areInLine(p, q, s) || !areInLine(q, r, s)) {
             return NOT_THERE;
         }
         int axis = axisOutside(p, q, r);

@@ -14,6 +14,7 @@ public final class ImageTest {
         pull(x);
         keepsLine(x);
         cornerBy(x);
+        uprightHorizon();
         largeInverse();
         CHECK.end();
     }
@@ -112,6 +113,29 @@ public final class ImageTest {
         CHECK.due("a side on it", z.cutSides(0, 3), 1 | 2 | 8);
         CHECK.due("first and last", z.cutSides(0, 4), 1 | 8);
         CHECK.due("by none", x.cutSides(Plain.M_TURN, 0), 0);
+    }
+
+    /** The horizon is x = -1; by 4 x, 2 x + 4 y, x + w. */
+    private static void uprightHorizon() {
+        CornerMaps x = Script.of("quad one 0 0 1 0 1 1 0 1;quad trap 0 0 2 1 2 3 0 4;quad low 0 0 0 1 -2 1 -2 -1;"
+            + "quad on -1 0 3 0 3 3 -1 3;quad side -3 0 3 1 3 4 -3 3;map t one trap;point 0 0 1;point -2 5 1;point -1 7 1;"
+            + "point 5 -1 1;point -3 1 3;");
+        CHECK.three("horizon", what -> x.horizon(0, what), 1, 0, 1);
+        CHECK.three("vanishing", what -> x.vanishing(0, what), -1, 0, 4);
+        CHECK.due("across", x.cut(0, 0, 1), 1);
+        CHECK.due("an end", x.cut(0, 0, 2), 1);
+        CHECK.due("another end", x.cut(0, 4, 3), 1);
+        CHECK.due("on one side of it", x.cut(0, 0, 3), 0);
+        int[] sides = {0, 0, 2 | 8, 1 | 4 | 8, 1 | 4};
+        int[] shapes = {0, 0, 2, -2, 2};
+        for (int q = 0; q < 5; q++) {
+            CHECK.due("sides " + q, x.cutSides(0, q), sides[q]);
+            CHECK.due("shape " + q, x.shapeBy(0, q), shapes[q]);
+        }
+        CHECK.due("kept", x.kept(0), 1 | 2 | 4 | 16);
+        CHECK.due("aren't finite", x.points(0, 1), 2);
+        CHECK.due("upright sides stay parallel", x.parallel(0, 0), 2);
+        CHECK.due("level ones come parallel", x.parallel(x.inverse(0), 1), 3);
     }
 
     private static void pull(CornerMaps x) {

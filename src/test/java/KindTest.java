@@ -38,6 +38,19 @@ public final class KindTest {
         CHECK.due("half", x.kind(8), 3);
         x.product(1, 2);
         CHECK.due("turned and shifted", x.kind(9), 2);
+        CornerMaps along = Grown.with("");
+        along.inverse(Grown.UP);
+        CHECK.due("to the right alone", along.kind(Grown.RIGHT), 1);
+        CHECK.due("up alone", along.kind(Grown.UP), 1);
+        CHECK.due("down alone", along.kind(6), 1);
+        CHECK.due("sheared", along.kind(Grown.SHEAR), 4);
+        // Half a turn keeps all lengths, and so does what mirrors one of the two numbers.
+        CornerMaps signs = Script.of("quad a 0 0 1 0 1 1 0 1;quad b 0 0 -1 0 -1 -1 0 -1;quad c 0 0 1 0 1 -1 0 -1;"
+            + "quad d 0 0 -1 0 -1 1 0 1;quad e 0 0 0 -1 -1 -1 -1 0;map b a b;map c a c;map d a d;map e a e;");
+        for (int m = 0; m < 4; m++) {
+            CHECK.due("lengths are kept " + m, signs.kind(m), 2);
+            CHECK.due("by 1 " + m, signs.scale(m, 0), 1);
+        }
         // Stretched across, not along: lengths of two ways grow unlike.
         CornerMaps y = Script.of("quad a 0 0 1 0 1 1 0 1;quad b 0 0 2 0 2 1 0 1;quad c 0 0 5 0 8 4 3 4;"
             + "quad d 0 0 -1 0 -1 -1 0 -1;map s a b;map r a c;map h a d;");

@@ -29,6 +29,10 @@ public final class PointsTest {
         CHECK.three("far line", what -> x.join(3, 4, what), 0, 0, 1);
         CHECK.three("axis", what -> x.join(0, 3, what), 0, 1, 0);
         CHECK.three("3 x + y = 4, 2 y = -1", what -> x.join(1, 5, what), -3, -1, 4);
+        CHECK.three("x = 0", what -> x.join(0, 4, what), 1, 0, 0);
+        CHECK.three("x = 0, back", what -> x.join(4, 0, what), 1, 0, 0);
+        CHECK.three("y = 0, back", what -> x.join(3, 0, what), 0, 1, 0);
+        CHECK.three("far line, back", what -> x.join(4, 3, what), 0, 0, 1);
         CHECK.due("alike", x.join(1, 2, 0), Check.FAR_OFF);
         CHECK.due("itself", x.join(4, 4, 2), Check.FAR_OFF);
         CHECK.due("alike, no what", x.join(1, 2, 3), NO);
@@ -113,6 +117,20 @@ public final class PointsTest {
         both("upwards", y, new int[] {0, 1, 2, 3}, 4, 3);
         both("afar", y, new int[] {4, 5, 6, 7}, -1, 1);
         both("with the far one", y, new int[] {0, 2, 1, 5}, -1, 1);
+        // Through 0 0, where two are alike: p q, r s, or both.
+        CornerMaps o = Script.of("point 1 1 1;point 2 2 1;point 3 3 1;point 0 0 1;point 1 1 0;point 5 1 1;");
+        both("q is p, through 0 0", o, new int[] {0, 0, 1, 2}, 1, 1);
+        both("s is r, through 0 0", o, new int[] {0, 1, 2, 2}, 1, 1);
+        both("two and two, through 0 0", o, new int[] {1, 1, 2, 2}, 1, 1);
+        both("r is p, through 0 0", o, new int[] {0, 1, 0, 2}, 0, 1);
+        both("r is q, through 0 0", o, new int[] {0, 1, 1, 2}, 1, 0);
+        both("0 0 itself", o, new int[] {3, 3, 1, 2}, 1, 1);
+        both("0 0 and afar", o, new int[] {3, 4, 0, 2}, 1, 3);
+        both("q is p, s off", o, new int[] {0, 0, 1, 5}, Check.FAR_OFF, Check.FAR_OFF);
+        both("q is p, r off", o, new int[] {0, 0, 5, 1}, Check.FAR_OFF, Check.FAR_OFF);
+        both("p is s, q off", o, new int[] {0, 5, 1, 0}, Check.FAR_OFF, Check.FAR_OFF);
+        both("p is r, s off", o, new int[] {0, 1, 0, 5}, Check.FAR_OFF, Check.FAR_OFF);
+        both("q is r, p off", o, new int[] {5, 1, 1, 0}, Check.FAR_OFF, Check.FAR_OFF);
         CornerMaps z = Script.of("point 9999 9998 9997;point -9999 9997 9991;point 0 0 1;");
         CHECK.due("great ones not in line", z.share(0, 1, 2, 0, 0), Check.FAR_OFF);
     }

@@ -40,6 +40,15 @@ public final class QuadTest {
         CHECK.due("no point", x.inside(Plain.BOW, 8), -1);
         CHECK.due("below", x.inside(-1, 0), -1);
         CHECK.due("below, too", x.inside(0, -1), -1);
+        // All but on a side, on it, all but within; both ways around.
+        CornerMaps close = Script.of("quad a 0 0 3 0 3 1 0 1;quad b 0 0 0 1 3 1 3 0;"
+            + "point 5 1 2;point 7 1 2;point 1 1 9999;point -1 1 9999;point 1 0 9999;point 9998 1 3333;point 9999 1 3333;"
+            + "point 9999 1 3332;");
+        int[] closeBy = {1, 0, 1, 0, 2, 1, 2, 0};
+        for (int point = 0; point < 8; point++) {
+            CHECK.due("close by " + point, close.inside(0, point), closeBy[point]);
+            CHECK.due("close by, clockwise " + point, close.inside(1, point), closeBy[point]);
+        }
         // Level with corners, on sides drawn out, in the dent; clockwise all.
         CornerMaps y = Script.of("quad a 0 0 -2 2 0 4 2 2;quad b 0 0 2 4 0 1 -2 4;point 0 2 1;point -3 2 1;point 3 2 1;"
             + "point 3 3 1;point 0 3 1;point 0 1 2;point 1 3 1;point 0 4 1;");
@@ -73,10 +82,36 @@ public final class QuadTest {
         CHECK.due("slanting, overlapping", y.crossings(3, 4), 6);
         CHECK.due("slanting, apart", y.crossings(3, 5), 0);
         CHECK.due("an end on a side drawn out", y.crossings(6, 7), 0);
+        // Spans on y = 2 x + 1: of the first side 1 3 3 7 others have a part, an end, nothing.
+        CornerMaps z = Script.of("quad a 1 3 3 7 20 8 20 -20;quad b 2 5 5 11 -9 20 -9 -20;quad c 3 7 6 13 1 20 -9 19;"
+            + "quad d 4 9 6 13 1 20 -9 19;quad e -5 -9 1 3 -9 3 -9 -9;quad f -1 -1 0 1 -9 1 -9 -3;quad g 3 7 1 3 -9 3 -9 7;");
+        int[] onOneLine = new int[7];
+        for (int other = 0; other < 7; other++) {
+            onOneLine[other] = touching(z, 0, other);
+            CHECK.due("on one line " + other, z.crossings(0, other), onOneLine[other]);
+            CHECK.due("the other way around " + other, z.crossings(other, 0), onOneLine[other]);
+        }
+        CHECK.due("nothing in common", onOneLine[3] + onOneLine[5], 0);
+        CHECK.due("an end alone", onOneLine[2], 4);
         CHECK.due("no first", x.crossings(8, 0), -1);
         CHECK.due("no second", x.crossings(0, 8), -1);
         CHECK.due("below", x.crossings(-1, 0), -1);
         CHECK.due("below, too", x.crossings(0, -1), -1);
+    }
+
+    /** How many sides of two quads touch, reckoned by the model's way. */
+    private static int touching(CornerMaps x, int q, int r) {
+        int count = 0;
+        for (int k = 0; k < 4; k++) {
+            for (int j = 0; j < 4; j++) {
+                count += Exact.touch(at(x, q, k), at(x, q, k + 1), at(x, r, j), at(x, r, j + 1)) ? 1 : 0;
+            }
+        }
+        return count;
+    }
+
+    private static java.math.BigInteger[] at(CornerMaps x, int q, int k) {
+        return Exact.row(x.corner(q, k % 4, 0), x.corner(q, k % 4, 1), 1);
     }
 
     private static void diagonal() {
