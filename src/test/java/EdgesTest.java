@@ -18,6 +18,7 @@ public final class EdgesTest {
         largeAside();
         largeAheadOfFull();
         turn();
+        turnsByDice();
         moves();
         track();
         leads();
@@ -252,6 +253,26 @@ public final class EdgesTest {
             CHECK.due("turn of the inverse " + m, y.turn(back), signOf(y, back));
             CHECK.due("within", y.turn(back) == 2 ? 1 : 0, 0);
         }
+    }
+
+    /** Small quads by dice, so that each product of numbers tells now and then. */
+    private static void turnsByDice() {
+        Dice dice = new Dice(28);
+        int[] seen = new int[3];
+        for (int round = 0; round < 400; round++) {
+            StringBuilder text = new StringBuilder("quad a");
+            for (int i = 0; i < 16; i++) {
+                text.append(i == 8 ? ";quad b " : " ").append(dice.from(-3, 3));
+            }
+            CornerMaps x = new CornerMaps();
+            if (Script.read(x, text + ";map f a b;") == 3 && x.size(0) <= 1000000) {
+                int sign = signOf(x, 0);
+                seen[sign + 1]++;
+                CHECK.due("turn by " + text, x.turn(0), sign);
+            }
+        }
+        CHECK.due("many of both", seen[0] > 40 && seen[2] > 40 ? 1 : 0, 1);
+        CHECK.due("none is 0", seen[1], 0);
     }
 
     /** The sign of the determinant, reckoned without bounds. */

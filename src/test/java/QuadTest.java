@@ -91,6 +91,21 @@ public final class QuadTest {
             CHECK.due("on one line " + other, z.crossings(0, other), onOneLine[other]);
             CHECK.due("the other way around " + other, z.crossings(other, 0), onOneLine[other]);
         }
+        // The same upright on x = 5, and level on y = 5.
+        CornerMaps upright = Script.of("quad a 5 0 5 2 9 2 9 0;quad b 5 1 5 7 1 7 1 1;quad c 5 2 5 6 1 6 1 2;"
+            + "quad d 5 4 5 6 1 6 1 4;quad e 5 -2 5 -6 1 -6 1 -2;quad f 5 6 5 4 1 4 1 6;quad g 5 -1 5 3 1 3 1 -1;"
+            + "quad h 5 2 5 0 1 0 1 2;");
+        CornerMaps level = Script.of("quad a 0 5 2 5 2 9 0 9;quad b 1 5 7 5 7 1 1 1;quad c 2 5 6 5 6 1 2 1;"
+            + "quad d 4 5 6 5 6 1 4 1;quad e -2 5 -6 5 -6 1 -2 1;quad f 6 5 4 5 4 1 6 1;quad g -1 5 3 5 3 1 -1 1;"
+            + "quad h 2 5 0 5 0 1 2 1;");
+        int[] common = {12, 3, 4, 0, 0, 0, 3, 7};
+        for (int other = 0; other < 8; other++) {
+            CHECK.due("upright " + other, upright.crossings(0, other), common[other]);
+            CHECK.due("upright, the other way around " + other, upright.crossings(other, 0), common[other]);
+            CHECK.due("level " + other, level.crossings(0, other), common[other]);
+            CHECK.due("level, the other way around " + other, level.crossings(other, 0), common[other]);
+            CHECK.due("upright, reckoned " + other, touching(upright, 0, other), common[other]);
+        }
         CHECK.due("nothing in common", onOneLine[3] + onOneLine[5], 0);
         CHECK.due("an end alone", onOneLine[2], 4);
         CHECK.due("no first", x.crossings(8, 0), -1);
